@@ -722,14 +722,15 @@ public final class WordHides {
         /** Whether a barred word stands, or a word at more places than it is bound to. */
         private boolean isSpoiled(Square square) {
             for (int number = 0; number < board.barred.size && number < MOST_WORDS; number++) {
-                if (square.standing(board.barred.texts[number], HOW_MANY) > 0) {
+                if (square.standing(board.barred.texts[number], 0) != NONE) {
                     return true;
                 }
             }
             for (int number = 0; number < board.words.size && number < MOST_WORDS; number++) {
                 Text word = board.words.texts[number];
                 int bound = word.isSameFromEnd() ? 2 : 1;
-                if (square.standing(word, HOW_MANY) > bound) {
+                // Places are numbered from 0 on: number bound is the first that is too many.
+                if (square.standing(word, bound) != NONE) {
                     return true;
                 }
             }
