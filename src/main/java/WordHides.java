@@ -390,27 +390,30 @@ public final class WordHides {
         /** For each way, what is added to a cell's number to get the next one's. */
         final int[] steps = new int[WAYS];
         /** For each place, how many cells lie from its cell on in its way. */
-        final int[] reaches;
+        final int[] reaches = new int[MOST_CELLS * WAYS];
 
         Lattice(int side) {
             this.side = side;
             cellCount = side * side;
             placeCount = cellCount * WAYS;
-            reaches = new int[MOST_CELLS * WAYS];
             for (int way = 0; way < WAYS; way++) {
                 steps[way] = ROW_STEPS[way] * side + COLUMN_STEPS[way];
             }
-            for (int place = 0; place < placeCount && place < reaches.length; place++) {
-                reaches[place] = measureReach(place / WAYS, place % WAYS);
+            for (int row = 0; row < side; row++) {
+                for (int column = 0; column < side; column++) {
+                    measureReaches(row, column);
+                }
             }
         }
 
-        private int measureReach(int cell, int way) {
-            int row = Math.floorDiv(cell, Math.max(side, 1));
-            int column = cell - row * side;
-            return Math.min(runOf(row, ROW_STEPS[way]), runOf(column, COLUMN_STEPS[way]));
+        private void measureReaches(int row, int column) {
+            int first = (row * side + column) * WAYS;
+            for (int way = 0; way < WAYS && first + way < reaches.length; way++) {
+                reaches[first + way] = Math.min(runOf(row, ROW_STEPS[way]), runOf(column, COLUMN_STEPS[way]));
+            }
         }
 
+        /** How many rows (or columns) lie from one on, that one being the first. */
         private int runOf(int line, int step) {
             if (step == 0) {
                 return side;
@@ -664,12 +667,10 @@ public final class WordHides {
             super(board);
         }
 
-        @Override
         boolean hasHope() {
             return true;
         }
 
-        @Override
         void meetLaying() {
             int crossed = Integer.bitCount(cellSets[0] & cellSets[1] | cellSets[0] & cellSets[2]
                     | cellSets[1] & cellSets[2]);
@@ -698,12 +699,10 @@ public final class WordHides {
         }
 
         /** What stands in a part of the square stands there too when all is filled. */
-        @Override
         boolean hasHope() {
             return !isSpoiled(laid);
         }
 
-        @Override
         void meetLaying() {
             filled.copyFrom(laid);
             int fromRest = filled.pour(board.rest);
