@@ -1,7 +1,5 @@
 /** The answers that each promise asks for, worked out by hand from the document. */
-public final class PromisesTest {
-    private static final int UNKNOWN = -1, OUTSIDE = -2, STATE = -3, FULL = -4, NO = -5, NONE = -6, FAULT = -7;
-    private static final int LOW = Integer.MIN_VALUE, HIGH = Integer.MAX_VALUE;
+public final class PromisesTest extends Bench {
     private static int wrong = 0;
 
     public static void main(String[] args) {
@@ -39,24 +37,6 @@ public final class PromisesTest {
         if (got != want) {
             wrong++;
             System.out.println("promise " + promise + ": " + call + " answered " + got + ", due is " + want);
-        }
-    }
-
-    private static void spell(WordHides x, String text) {
-        for (int i = 0; i < text.length(); i++) {
-            x.say(text.charAt(i));
-        }
-    }
-
-    private static int take(WordHides x, int kind, String text) {
-        spell(x, text);
-        return x.take(kind);
-    }
-
-    /** Sets all cells; a point is an EMPTY one. */
-    private static void paint(WordHides x, String cells) {
-        for (int cell = 0; cell < cells.length(); cell++) {
-            x.set(cell, cells.charAt(cell) == '.' ? 0 : cells.charAt(cell));
         }
     }
 
