@@ -84,9 +84,17 @@ public final class FaceTest {
             }
         }
         must(open.equals(new TreeSet<>(Arrays.asList(METHODS))), "the methods are the document's, not " + open);
-        for (Method method : WordHides.class.getDeclaredMethods()) {
+        privateNames(WordHides.class, names);
+        for (Class<?> inner : WordHides.class.getDeclaredClasses()) {
+            privateNames(inner, names);
+        }
+    }
+
+    private static void privateNames(Class<?> owner, Set<String> names) {
+        for (Method method : owner.getDeclaredMethods()) {
             must(!Modifier.isPrivate(method.getModifiers()) || !names.contains(method.getName()),
                     "no private method is called " + method.getName());
+            must(method.getParameterCount() <= 7, method.getName() + " takes at most seven parameters");
         }
     }
 

@@ -30,7 +30,7 @@ abstract class Bench {
         asked++;
         if (!got.equals(want)) {
             wrong++;
-            System.out.println(heading + "\n  " + what + " answered " + got + ", due is " + want);
+            System.out.println((heading.isEmpty() ? "" : heading + "\n  ") + what + " answered " + got + ", due is " + want);
         }
     }
 
